@@ -73,7 +73,8 @@ final class Check {
 
     static String spelled(HushWatch watch, int site) {
         StringBuilder words = new StringBuilder();
-        for (int i = 0; i < watch.spell(site, -1); i++) {
+        int length = watch.spell(site, -1);
+        for (int i = 0; i < length; i++) {
             words.append((char) watch.spell(site, i));
         }
         return words.toString();

@@ -7,20 +7,29 @@ import java.util.HashSet;
 import java.util.List;
 import java.util.Set;
 import java.util.TreeSet;
+import java.util.regex.Matcher;
+import java.util.regex.Pattern;
 
-/** The document's public face, and LANGUAGE.md's rule 1: all of it is there, and no more. */
+/** The public face, read from the document's own block, and LANGUAGE.md's rule 1: all of it, and no more. */
 public final class FaceTest {
-    private static final String[] FACE = {
-        "int feed(int,int,int,int,int)", "boolean end(int)", "int fault(int)", "int text(int)", "int rule(int)",
-        "int site(int,int) throws java.util.NoSuchElementException", "long value(int,int)",
-        "boolean tells(int,int)", "long all(int)", "int move(int,int,int)", "int freeze(int)", "int sync()",
-        "int bound(int)", "int law(int)", "int add(int,int)", "int goal(int)", "int count(int)",
-        "int years(int,long)", "int status(int)", "int undo()", "int log(int,int)", "int limit(int,int,int)",
-        "int would(int,int,int,int)", "int asked(int,int,int,int)", "int walk(int,int,int,int,int)",
-        "int partner(int,int,int)", "int race(int,int,int)", "long needs(int,int,int)",
-        "int span(int,int,boolean)", "int goes(int,int)", "int fair(int)", "int spell(int,int)",
-        "int step(int,int,int)", "int run(int,int)", "int perform(int)", "int most(int)", "int image()",
-        "int back()", "int held(int)"};
+    private static final Pattern METHOD =
+            Pattern.compile("public (\\w+) (\\w+)\\(([^)]*)\\)(?: throws (\\w+))?");
+    private static final Pattern CONSTANT = Pattern.compile("public static final int (\\w+) = (-?\\d+)");
+
+    /** The document's own block: its methods as reflection would tell them. */
+    private static Set<String> methodsDue() {
+        Set<String> due = new TreeSet<>();
+        for (String line : Told.face()) {
+            Matcher method = METHOD.matcher(line);
+            if (method.matches()) {
+                String types = method.group(3).replaceAll("(\\w+) \\w+", "$1").replaceAll("\\s", "");
+                due.add(method.group(1) + " " + method.group(2) + "(" + types + ")"
+                        + (method.group(4) == null ? "" : " throws java.util." + method.group(4)));
+                Told.promise(Told.FACE, line);
+            }
+        }
+        return due;
+    }
 
     private static String told(Method method) {
         List<String> types = new ArrayList<>();
@@ -44,28 +53,44 @@ public final class FaceTest {
                 found.add(told(method));
             }
         }
-        Set<String> due = new TreeSet<>(List.of(FACE));
-        Check.due("the methods " + found, found.equals(due), true);
+        Set<String> due = methodsDue();
+        Check.due("the methods " + found + " | " + due, found.equals(due), true);
+        Check.due("promises 2 to 40", due.size(), 39);
     }
 
-    private static void sameConstants() {
+    private static void sameConstants() throws ReflectiveOperationException {
         Set<String> found = new TreeSet<>();
         for (Field field : HushWatch.class.getDeclaredFields()) {
             if (!Modifier.isPrivate(field.getModifiers())) {
-                found.add(Modifier.toString(field.getModifiers()) + " " + field.getType() + " " + field.getName());
+                found.add(Modifier.toString(field.getModifiers()) + " " + field.getType() + " " + field.getName()
+                        + " = " + field.getInt(null));
             }
         }
-        Set<String> due = Set.of("public static final int NONE", "public static final int HIDDEN");
-        Check.due("the constants " + found, found.equals(due), true);
+        Set<String> due = new TreeSet<>();
+        for (String line : Told.face()) {
+            if (CONSTANT.matcher(line).matches()) {
+                due.add(line);
+                Told.promise(Told.FACE, line);
+            }
+        }
+        Check.due("the constants " + found + " | " + due, found.equals(due), true);
+    }
+
+    private static void sameClass() {
+        Told.promise(Told.FACE, "public final class HushWatch");
+        Check.due("the class", HushWatch.class.getModifiers(), Modifier.PUBLIC | Modifier.FINAL);
+        Told.promise(Told.FACE, "public HushWatch();");
         Constructor<?>[] constructors = HushWatch.class.getDeclaredConstructors();
         Check.due("constructors", constructors.length, 1);
         Check.due("constructor's parameters", constructors[0].getParameterCount(), 0);
-        Check.due("the class", HushWatch.class.getModifiers(), Modifier.PUBLIC | Modifier.FINAL);
+        Check.due("a public constructor", constructors[0].getModifiers(), Modifier.PUBLIC);
+        Told.promise(Told.FACE, "import java.util.NoSuchElementException;");
+        Check.due("what site throws", Check.siteThrows(new HushWatch(), 0, 0), true);
     }
 
     private static void noNameTwice() {
         Set<String> names = new HashSet<>();
-        for (String method : FACE) {
+        for (String method : methodsDue()) {
             names.add(method.substring(method.indexOf(' ') + 1, method.indexOf('(')));
         }
         List<Class<?>> classes = new ArrayList<>(List.of(HushWatch.class.getDeclaredClasses()));
@@ -84,10 +109,11 @@ public final class FaceTest {
         }
     }
 
-    public static void main(String[] args) {
+    public static void main(String[] args) throws ReflectiveOperationException {
         sameFace();
         sameConstants();
+        sameClass();
         noNameTwice();
-        Check.finish("FaceTest");
+        Told.finish("FaceTest", Told.FACE, Told.FACE);
     }
 }

@@ -154,7 +154,7 @@ public final class ModelTest {
     }
 
     private int site() {
-        return rarely(25) ? pick(-1, 9) : pick(0, Math.max(0, real.held(0) - 1));
+        return rarely(25) ? pick(-1, 9) : pick(0, Math.max(0, model.held(0) - 1));
     }
 
     private int way() {
@@ -174,7 +174,7 @@ public final class ModelTest {
 
     private Object[] args(Method method) {
         switch (method.getName()) {
-            case "end": return new Object[] {rarely(2) ? real.held(2) : pick(-1, 321)};
+            case "end": return new Object[] {rarely(2) ? model.held(2) : pick(-1, 321)};
             case "fault":
             case "text": return new Object[] {pick(-1, 2)};
             case "rule": return new Object[] {what(3)};
@@ -231,7 +231,7 @@ public final class ModelTest {
             both("count", what);
             both("held", what);
         }
-        int site = pick(0, Math.max(0, real.held(0) - 1));
+        int site = pick(0, Math.max(0, model.held(0) - 1));
         for (int what = 0; what < 14; what++) {
             both("site", site, what);
         }
@@ -249,7 +249,7 @@ public final class ModelTest {
                 both("fault", 0);
                 both("text", 0);
             } else if (rarely(60)) {
-                feed(scriptText(real.held(0)));
+                feed(scriptText(model.held(0)));
                 both("fault", 1);
                 both("text", 1);
             } else if (rarely(90)) {

@@ -4,7 +4,8 @@ import java.lang.management.ManagementFactory;
 /** A run of calls keeps its room: what is made, is made with the object, and calls use it again. */
 public final class RoomTest {
     private static final ThreadMXBean THREADS = (ThreadMXBean) ManagementFactory.getThreadMXBean();
-    private static final int CALLS = 512;
+    // With the calls that make a watch, and those of a last row of spells, an object stays below 512.
+    private static final int CALLS = 240;
 
     private static long made() {
         return THREADS.getThreadAllocatedBytes(Thread.currentThread().getId());
